@@ -91,6 +91,12 @@ public final class PromisesTest {
         return x;
     }
 
+    private static LockedInByNext withWatchers(String town, int people) {
+        LockedInByNext x = told(town);
+        x.watch(people);
+        return x;
+    }
+
     private static LockedInByNext withRow(String town, int... numbers) {
         LockedInByNext x = told(town);
         for (int v : numbers) {
@@ -634,6 +640,10 @@ public final class PromisesTest {
         on(TWO + "w0;s0;", "copies(0)", 1, x -> x.copies(0));
         due("an eleventh", withKeys(TWO + "w0;", 0, 0, 0, 0, 0, 0, 0, 0, 0, 0).copies(9), 1);
         due("a twelfth", withKeys(THREE + "w0;", 0, 0, 0, 0, 0, 0, 0, 0, 0, 0).copies(9), 2);
+        // 6 opens 0 at 7, and 0, who is quicker at it, opens 1 at 8; the others need 9 at a door.
+        String far = "pp0,0,0,0;pp0,9,0,0;pp0,9,0,0;pp0,9,0,0;pp0,9,0,0;pp0,9,0,0;pp0,1,0,0;";
+        due("0 by 6 and 1 by 0", withWatchers(far, 124).copies(8), 2);
+        due("a minute less", withWatchers(far, 124).copies(7), -9);
         refused("copies(-1)", CHAIN, -4, x -> x.copies(-1));
         refused("copies(least)", CHAIN, -4, x -> x.copies(LEAST));
         refused("copies(-1) of nobody", "", -4, x -> x.copies(-1));
