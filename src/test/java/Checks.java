@@ -53,22 +53,36 @@ final class Checks {
         }
     }
 
+    /** A town that is too long for one text is told in several, each of whole statements. */
     static LockedInByNext told(String town) {
         LockedInByNext x = new LockedInByNext();
-        if (!town.isEmpty()) {
-            int answer = tell(x, town);
+        String rest = town;
+        while (!rest.isEmpty()) {
+            int end = rest.length() <= 80 ? rest.length() : rest.lastIndexOf(';', 79) + 1;
+            int answer = tell(x, rest.substring(0, end));
             if (answer < 1) {
                 throw new IllegalStateException("no town: " + town + " " + answer);
             }
+            rest = rest.substring(end);
         }
         return x;
     }
 
     static int tell(LockedInByNext x, String town) {
-        for (char c : town.toCharArray()) {
+        letters(x, town);
+        return x.town();
+    }
+
+    static void letters(LockedInByNext x, String text) {
+        for (char c : text.toCharArray()) {
             x.letter(c);
         }
-        return x.town();
+    }
+
+    static void row(LockedInByNext x, int... numbers) {
+        for (int v : numbers) {
+            x.row(v);
+        }
     }
 
     /** Without refusals: all that can be asked for without being refused. */
