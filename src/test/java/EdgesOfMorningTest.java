@@ -76,7 +76,7 @@ public final class EdgesOfMorningTest {
         }
     }
 
-    /** Terms: "needs TAKES at a door", "q .. needs half of a PERSON's, cut", s and t as a PERSON, b and h as a QUICK. */
+    /** Terms: "needs TAKES at a door", "q .. half of a PERSON's, cut"; s and t as a PERSON, b and h as a QUICK. */
     private static void needs() {
         C.part("Terms, what each KIND needs at a door");
         int[] half = {0, 0, 1, 1, 2, 2, 3, 3, 4, 4};

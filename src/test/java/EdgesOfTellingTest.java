@@ -106,7 +106,8 @@ public final class EdgesOfTellingTest {
         for (int there = 0; there <= 7; there++) {
             for (int more = 1; more <= 8; more++) {
                 int all = there + more;
-                LockedInByNext x = told(ONE.repeat(there), ONE.repeat(more), all <= 7 ? more : -2000 - 10 * (7 - there));
+                LockedInByNext x = told(ONE.repeat(there), ONE.repeat(more),
+                        all <= 7 ? more : -2000 - 10 * (7 - there));
                 due("people behind " + there + " and " + more, x.count(0), all <= 7 ? all : there);
             }
         }
