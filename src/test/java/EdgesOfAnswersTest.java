@@ -476,7 +476,7 @@ public final class EdgesOfAnswersTest {
         on(SEVEN + "w0;k60;", "fire(6, 5)", 1, x -> x.fire(6, 5));
     }
 
-    /** Terms: "LOT: n PEOPLE (1 .. 9) ..: how likely .. just one ring; how many rings in the mean: .. in least terms." */
+    /** Terms: "LOT: n PEOPLE (1 .. 9) ..: how likely .. one ring; how many rings in the mean: .. in least terms." */
     private static void lot() {
         C.part("Terms, LOT; 25");
         int[] above = {1, 3, 11, 25, 137, 49, 363, 761, 7129};
