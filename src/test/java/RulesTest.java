@@ -5,7 +5,9 @@ import java.lang.reflect.Modifier;
 import java.nio.file.Files;
 import java.nio.file.Path;
 import java.util.Arrays;
+import java.util.Map;
 import java.util.Set;
+import java.util.TreeMap;
 import java.util.TreeSet;
 import java.util.regex.Matcher;
 import java.util.regex.Pattern;
@@ -20,11 +22,25 @@ public final class RulesTest {
         "assert", "import", "package", "native", "volatile", "transient", "hashCode", "toString", "Object",
         "Exception", "Thread", "->", "::", "Exact", "@", "var"};
 
+    private static final Set<String> STATIC_TYPES = Set.of("int", "long", "boolean", "char", "java.lang.String");
+    private static final Set<String> TYPES = Set.of("int", "int[]", "int[][]", "boolean");
+    /** What is called on objects that are not of the program's own classes. */
+    private static final Set<String> LIBRARY_CALLS = Set.of("length", "charAt", "abs", "max", "min", "bitCount",
+            "arraycopy");
+    private static final Pattern MAKES = Pattern.compile("\\bnew\\b|\\.clone\\(|\"\\s*\\+|\\+\\s*\"");
+    private static final int MOST_LINES = 60;
+    private static final int DEEPEST = 8;
+
     private static final Checks CHECKS = new Checks();
 
     public static void main(String[] args) throws Exception {
         face();
-        text(Files.readString(Path.of("src/main/java/LockedInByNext.java")));
+        String source = Files.readString(Path.of("src/main/java/LockedInByNext.java"));
+        text(source);
+        Map<String, String> bodies = bodies(withoutRemarks(source));
+        lengths(bodies);
+        madeOnce(bodies);
+        depths(bodies);
         CHECKS.end("RulesTest");
     }
 
@@ -54,9 +70,13 @@ public final class RulesTest {
         members(c, names, true);
         for (Class<?> inside : c.getDeclaredClasses()) {
             CHECKS.due(inside + " is static", Modifier.isStatic(inside.getModifiers()) ? 1 : 0, 1);
+            CHECKS.due(inside + " is not seen from outside",
+                    inside.getModifiers() & (Modifier.PUBLIC | Modifier.PROTECTED), 0);
             members(inside, names, false);
         }
         CHECKS.due("at most twelve classes", c.getDeclaredClasses().length < 12 ? 1 : 0, 1);
+        CHECKS.due("classes without a name or in a method", c.getNestMembers().length - 1,
+                c.getDeclaredClasses().length);
     }
 
     private static void members(Class<?> c, Set<String> names, boolean outside) {
@@ -66,10 +86,14 @@ public final class RulesTest {
             if (outside) {
                 CHECKS.due(f + " is private", mods & Modifier.PRIVATE, Modifier.PRIVATE);
             }
+            String type = f.getType().getCanonicalName();
             if (Modifier.isStatic(mods)) {
                 CHECKS.due(f + " is final", mods & Modifier.FINAL, Modifier.FINAL);
+                CHECKS.due(f + " is of a type for constants", STATIC_TYPES.contains(type) ? 1 : 0, 1);
             } else {
                 fields++;
+                boolean own = type.startsWith("LockedInByNext.");
+                CHECKS.due(f + " is of a type that may be used", own || TYPES.contains(type) ? 1 : 0, 1);
             }
         }
         CHECKS.due(c + " has at most twenty fields", fields <= 20 ? 1 : 0, 1);
@@ -87,7 +111,7 @@ public final class RulesTest {
                 CHECKS.due("a sign beyond 126 at " + i, source.charAt(i), 0);
             }
         }
-        String code = source.replaceAll("(?s)/\\*.*?\\*/", " ").replaceAll("//[^\n]*", " ");
+        String code = withoutRemarks(source);
         for (String word : FORBIDDEN) {
             String at = Character.isLetter(word.charAt(0)) && !word.equals("Exact") && !word.equals("Exception")
                     ? "\\b" + word + "\\b" : Pattern.quote(word);
@@ -99,5 +123,63 @@ public final class RulesTest {
                     .contains(library.group());
             CHECKS.due(library.group() + " is of the library that may be used", allowed ? 1 : 0, 1);
         }
+    }
+
+    private static String withoutRemarks(String source) {
+        return source.replaceAll("(?s)/\\*.*?\\*/", " ").replaceAll("//[^\n]*", " ");
+    }
+
+    /** Each method's and constructor's lines by its name; no two of the program bear the same one. */
+    private static Map<String, String> bodies(String code) {
+        CHECKS.part("methods");
+        Map<String, String> bodies = new TreeMap<>();
+        String head = "^( +)(?:(?:public|private|static) )*(?:[\\w\\[\\]]+ )?(\\w+)\\([^()]*\\) \\{\\n";
+        Matcher m = Pattern.compile("(?m)" + head + "(?s:.*?)^\\1\\}$").matcher(code);
+        while (m.find()) {
+            CHECKS.due("another " + m.group(2), bodies.put(m.group(2), m.group()) == null ? 0 : 1, 0);
+        }
+        int made = 0;
+        for (Class<?> c : LockedInByNext.class.getNestMembers()) {
+            made += c.getDeclaredMethods().length + c.getDeclaredConstructors().length;
+        }
+        CHECKS.due("methods and constructors found in the text", bodies.size(), made);
+        return bodies;
+    }
+
+    private static void lengths(Map<String, String> bodies) {
+        for (Map.Entry<String, String> body : bodies.entrySet()) {
+            CHECKS.due(body.getKey() + " is short", body.getValue().lines().count() <= MOST_LINES ? 1 : 0, 1);
+        }
+    }
+
+    /** All rows are made in constructors: so 512 calls of an object need no more room than one. */
+    private static void madeOnce(Map<String, String> bodies) {
+        for (Map.Entry<String, String> body : bodies.entrySet()) {
+            boolean constructor = Character.isUpperCase(body.getKey().charAt(0));
+            boolean makes = MAKES.matcher(body.getValue()).find();
+            CHECKS.due(body.getKey() + " makes an object", makes && !constructor ? 1 : 0, 0);
+        }
+    }
+
+    private static void depths(Map<String, String> bodies) {
+        for (String name : bodies.keySet()) {
+            CHECKS.due("calls in " + name + " go too deep", depth(bodies, name, 1) <= DEEPEST ? 0 : 1, 0);
+        }
+    }
+
+    /** How deep calls go; a call that comes back to itself goes deeper than any that may be. */
+    private static int depth(Map<String, String> bodies, String name, int level) {
+        int deepest = level;
+        String body = bodies.get(name);
+        Matcher call = Pattern.compile("\\b(\\w+)\\(").matcher(body.substring(body.indexOf('{')));
+        while (call.find() && deepest <= DEEPEST) {
+            if (bodies.containsKey(call.group(1))) {
+                deepest = Math.max(deepest, depth(bodies, call.group(1), level + 1));
+            } else {
+                CHECKS.due(call.group(1) + " is of the library that may be used",
+                        LIBRARY_CALLS.contains(call.group(1)) ? 1 : 0, 1);
+            }
+        }
+        return deepest;
     }
 }
